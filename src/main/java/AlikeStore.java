@@ -808,7 +808,6 @@ public final class AlikeStore {
             bits = USUAL_BITS;
             size = 0;
             filter = null;
-            halve();
         }
 
         void halve() {

@@ -98,6 +98,9 @@ public final class ActsTest {
         check.refused("below 0", x, x.swap(-1, 0), 1);
         check.refused("other below 0", x, x.swap(0, -1), 1);
         check.refused("1 is ahead of 4", x, x.swap(4, 4), 1);
+        x.flip(0, 2);
+        check.fine("the first too", x, x.swap(2, 3), 3);
+        check.fine("its bit", x, x.code(0), 8);
         AlikeStore none = new AlikeStore();
         check.fine("of no codes", none, none.swap(0, 15), 0);
         check.fine("an act", none, none.many(5), 1);
@@ -319,6 +322,10 @@ public final class ActsTest {
         check.fine("no such part any more", x, x.many(4), 0);
         x.split(0, 1);
         check.fine("there again", x, x.many(4), 28);
+        AlikeStore y = Check.loaded(FIVE + "filter key 1 = 0;");
+        check.fine("key 0", y, y.many(4), 1);
+        y.merge(0);
+        check.fine("0 for each", y, y.many(4), 31);
         x.merge(0);
         x.split(0, 2);
         check.fine("another part", x, x.many(4), 4);

@@ -213,6 +213,11 @@ public final class AmongTest {
         check.refused("1 is ahead of 2", x, x.spread(2, 2), 1);
         check.refused("part 2", x, x.spread(2, 0), 2);
         check.refused("part -1", x, x.spread(-1, 0), 2);
+        AlikeStore own = Check.loaded(SQUARE);
+        check.fine("each its own", own, own.spread(0, 0), 2);
+        own.strike(3);
+        own.strike(2);
+        check.fine("the first too", own, own.spread(0, 0), 2);
         AlikeStore none = new AlikeStore();
         check.fine("of none", none, none.spread(0, 0), 0);
         check.fine("most of none", none, none.spread(0, 1), 0);

@@ -21,7 +21,8 @@ public final class ModelTest {
     private int calls = 0;
 
     private ModelTest(long seed) {
-        random = new Random(seed);
+        // Seeds side by side begin alike; this sets them apart.
+        random = new Random(seed * 0x9e3779b97f4a7c15L);
     }
 
     public static void main(String[] args) {
@@ -296,7 +297,7 @@ public final class ModelTest {
                 appendTest(text, width, parts, 0);
                 text.append(blank()).append(';');
             } else {
-                text.append("code ").append(binary(width));
+                text.append("code ").append(fresh(width, text));
                 if (random.nextInt(3) == 0) {
                     text.append(blank()).append("tag").append(blank()).append(random.nextInt(random.nextInt(9) == 0 ? 12 : 10));
                 }
@@ -330,6 +331,15 @@ public final class ModelTest {
         }
         text.append(";");
         return parts;
+    }
+
+    /** Most often a code that isn't there already. */
+    private String fresh(int width, StringBuilder text) {
+        String bits = binary(width);
+        for (int i = random.nextInt(40); i > 0 && text.indexOf(bits + " ") + text.indexOf(bits + ";") > -2; i--) {
+            bits = binary(width);
+        }
+        return bits;
     }
 
     private String binary(int width) {

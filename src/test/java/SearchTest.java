@@ -9,6 +9,7 @@ public final class SearchTest {
 
     public static void main(String[] args) {
         budget();
+        budgetsOfManyParts();
         cost();
         near();
         nearOfAll();
@@ -42,6 +43,35 @@ public final class SearchTest {
         for (int part = 0; part < 3; part++) {
             check.fine("all alike: the least of part 0, then of part 1", none, none.budget(0, 5, part), due[part]);
         }
+    }
+
+    private static void budgets(AlikeStore x, int radius, int cost, int... due) {
+        for (int part = 0; part < due.length; part++) {
+            check.fine("budget by " + radius + " of " + part, x, x.budget(0, radius, part), due[part]);
+        }
+        check.fine("cost by " + radius, x, x.near(0, radius, 0), cost);
+    }
+
+    private static void budgetsOfManyParts() {
+        AlikeStore three = Check.loaded("bits 6;parts 2 2 2;code 000000;code 000001;code 000100;code 010000;");
+        budgets(three, 0, 3, -1, -1, 0);
+        budgets(three, 1, 4, -1, -1, 1);
+        budgets(three, 2, 4, -1, -1, 2);
+        budgets(three, 3, 7, -1, 0, 2);
+        budgets(three, 4, 8, -1, 1, 2);
+        budgets(three, 5, 8, -1, 2, 2);
+        budgets(three, 6, 11, 0, 2, 2);
+        AlikeStore four = Check.loaded("bits 8;parts 2 2 2 2;code 00001100;");
+        budgets(four, 0, 0, -1, 0, -1, -1);
+        budgets(four, 1, 0, -1, 1, -1, -1);
+        budgets(four, 2, 1, -1, -1, -1, 2);
+        AlikeStore six = Check.loaded("bits 6;parts 1 1 1 1 1 1;code 000000;code 111111;");
+        budgets(six, 0, 1, -1, -1, -1, -1, -1, 0);
+        budgets(six, 6, 7, -1, -1, 0, 1, 1, 1);
+        AlikeStore full = Check.loaded("bits 48;parts 8 8 8 8 8 8;");
+        budgets(full, 48, 0, 3, 8, 8, 8, 8, 8);
+        AlikeStore halves = Check.loaded("bits 48;");
+        budgets(halves, 48, 0, 23, 24);
     }
 
     /** Promise 26. */
@@ -157,6 +187,12 @@ public final class SearchTest {
         for (int i = 0; i < 3; i++) {
             check.fine("of alike ones the first ranked " + i, y, y.apart(0, 8, 3, i), ranked[i]);
         }
+        AlikeStore wide = Check.loaded("bits 48;");
+        wide.add((1L << 47) - 1);
+        wide.add((1L << 48) - 1);
+        wide.add(0);
+        check.fine("the first", wide, wide.apart(0, 48, 3, 0), 2);
+        check.fine("48 is more than 47", wide, wide.apart(0, 48, 3, 1), 1);
         check.refused("k 0", x, x.apart(0, 8, 0, 0), 1);
         check.refused("k 33", x, x.apart(0, 8, 33, 0), 1);
         check.refused("i -1", x, x.apart(0, 8, 1, -1), 1);

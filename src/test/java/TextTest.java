@@ -90,6 +90,12 @@ public final class TextTest {
         check.fine("a text anew", x, Check.load(x, "code " + ZEROS + ";"), 1);
         check.fine("16 bits without", x, x.many(0), 16);
         check.fine("halved", x, x.breadth(0), 8);
+        check.fine("with a filter", x, Check.load(x, "filter ones > 3 or ones = 0;code " + ZEROS + ";"), 1);
+        check.fine("it counts", x, x.many(3), 1);
+        check.fine("another filter", x, Check.load(x, "filter ones > 1;code " + ZEROS + ";"), 1);
+        check.fine("it doesn't count", x, x.many(3), 0);
+        check.fine("without a filter", x, Check.load(x, "code " + ZEROS + ";"), 1);
+        check.fine("none is left", x, x.many(7), 0);
         check.fine("parts", x, Check.load(x, "parts 1 2 3 4 5 1;"), 0);
         check.fine("how many", x, x.many(1), 6);
         for (int part = 0; part < 6; part++) {
@@ -176,6 +182,9 @@ public final class TextTest {
         fault("parts 8 8", 2, 9);
         fault("codes " + ZEROS + ";", 2, 0);
         fault("cod", 2, 0);
+        fault("xode " + ZEROS + ";", 2, 0);
+        fault("zz", 2, 0);
+        fault("az", 2, 0);
         fault("; ", 2, 0);
         fault(ZEROS, 2, 0);
         fault("code x;", 2, 5);
@@ -327,5 +336,22 @@ public final class TextTest {
         counts("number = 0 or number = 2 or number = 4", 21);
         counts("number > 0 and number < 4 and ones > 2", 12);
         counts("ones < 99999999", 31);
+        longFilters();
+    }
+
+    /** A TEXT full of FACTS, again and again: each stands for itself. */
+    private static void longFilters() {
+        AlikeStore x = new AlikeStore();
+        StringBuilder chain = new StringBuilder("bits 4;code 0001;code 0011;filter ");
+        for (int i = 0; i < 90; i++) {
+            chain.append("tag=9or ");
+        }
+        for (int ones = 1; ones <= 4; ones++) {
+            check.fine("a long filter", x, Check.load(x, chain + "not not ones = " + ones + ";"), 2);
+            check.fine("by its last fact", x, x.many(4), ones < 3 ? ones : 0);
+        }
+        String nots = "filter not [not [not [ones=1 or tag=9 and tag=8]or tag=9 and tag=8]or tag=9 and tag=8]";
+        check.fine("wrapped", x, Check.load(x, "bits 4;code 0001;code 0011;" + nots + ";"), 2);
+        check.fine("three nots", x, x.many(4), 2);
     }
 }
