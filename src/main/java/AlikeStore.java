@@ -26,9 +26,7 @@ public final class AlikeStore {
     private static final int FAULTY = 9;
 
     private final Store store = new Store();
-    private final Store draft = new Store();
-    private final Tape tape = new Tape();
-    private final Reader reader = new Reader(tape, draft);
+    private final Reader reader = new Reader();
     private final History history = new History();
     private final Budgets budgets = new Budgets();
     private final Ranking ranking = new Ranking();
@@ -44,6 +42,7 @@ public final class AlikeStore {
     }
 
     public int feed(int a, int b, int c, int d, int e) {
+        Tape tape = reader.tape;
         if (tape.size + FED_BYTES > MAX_TEXT) {
             return NONE;
         }
@@ -56,17 +55,17 @@ public final class AlikeStore {
     }
 
     public int load(int n) {
-        if (n < 0 || n > tape.size) {
+        if (n < 0 || n > reader.tape.size) {
             return refuse(CANNOT_BE);
         }
         faultKind = reader.read(n);
         faultPlace = faultKind == FINE ? NONE : reader.place();
-        tape.size = 0;
+        reader.tape.size = 0;
         if (faultKind != FINE) {
             return refuse(FAULTY);
         }
         history.keep(store);
-        store.become(draft);
+        store.become(reader.store);
         return answer(store.size);
     }
 
@@ -1053,8 +1052,9 @@ public final class AlikeStore {
     }
 
     /**
-     * Reads a TEXT from TOKEN to TOKEN. What reads a piece answers its FAULT, or 0, and stays at the
-     * TOKEN that is at fault; what reads a number answers the FAULT below 0.
+     * Reads a TEXT from TOKEN to TOKEN into a STORE of its own, so that a FAULT leaves the old one.
+     * What reads a piece answers its FAULT, or 0, and stays at the TOKEN that is at fault; what reads
+     * a number answers the FAULT below 0.
      */
     private static final class Reader {
         // Signs are their own kinds, so these four are none of them.
@@ -1077,17 +1077,13 @@ public final class AlikeStore {
         private static final int MAX_WRAPS = 6;
 
         private final Steps steps = new Steps();
-        private final byte[] text;
-        private final Store store;
+        final Tape tape = new Tape();
+        final Store store = new Store();
+        private final byte[] text = tape.bytes;
         private int length = 0;
         private int kind = END;
         private int start = 0;
         private int end = 0;
-
-        Reader(Tape tape, Store draft) {
-            text = tape.bytes;
-            store = draft;
-        }
 
         int read(int size) {
             length = Math.min(size, text.length);
