@@ -178,20 +178,6 @@ public final class ActsTest {
         check.refused("open again", x, x.open(), 5);
     }
 
-    private static String told(AlikeStore x) {
-        StringBuilder told = new StringBuilder();
-        for (int what : new int[] {0, 1, 2, 3, 4, 7}) {
-            told.append(x.many(what)).append(' ');
-        }
-        for (int i = 0; i < 33; i++) {
-            told.append(x.code(i)).append(',').append(x.tagOf(i)).append(' ');
-        }
-        for (int i = 0; i < 7; i++) {
-            told.append(x.breadth(i)).append(' ');
-        }
-        return told.toString();
-    }
-
     private static void act(AlikeStore x, int which) {
         switch (which) {
             case 0:
@@ -228,24 +214,24 @@ public final class ActsTest {
     private static void undoEach() {
         for (int which = 0; which < 9; which++) {
             AlikeStore x = Check.loaded(FIVE + "filter ones > 0;");
-            String before = told(x);
+            String before = Check.told(x);
             act(x, which);
             check.due("act " + which, x.status(), 0);
-            check.due("act " + which + " changes", told(x).equals(before) ? 0 : 1, 1);
+            check.due("act " + which + " changes", Check.told(x).equals(before) ? 0 : 1, 1);
             check.fine("acts", x, x.many(5), 2);
             check.fine("undo", x, x.undo(), 1);
-            check.due("act " + which + " undone", told(x).equals(before) ? 1 : 0, 1);
+            check.due("act " + which + " undone", Check.told(x).equals(before) ? 1 : 0, 1);
         }
         AlikeStore x = Check.loaded(FIVE + "filter ones > 0;");
         String[] states = new String[9];
         for (int which = 0; which < 9; which++) {
-            states[which] = told(x);
+            states[which] = Check.told(x);
             act(x, new int[] {7, 5, 6, 4, 3, 2, 1, 0, 8}[which]);
             check.due("act " + which + " of many", x.status(), 0);
         }
         for (int which = 8; which >= 0; which--) {
             x.undo();
-            check.due("undone to " + which, told(x).equals(states[which]) ? 1 : 0, 1);
+            check.due("undone to " + which, Check.told(x).equals(states[which]) ? 1 : 0, 1);
         }
     }
 
@@ -272,7 +258,7 @@ public final class ActsTest {
         AlikeStore x = Check.loaded(FIVE + "filter ones > 0;");
         String[] states = new String[3];
         for (int i = 0; i < 3; i++) {
-            states[i] = told(x);
+            states[i] = Check.told(x);
             check.fine("mark", x, x.mark(), i + 1);
             check.fine("marks", x, x.many(6), i + 1);
             check.fine("no act", x, x.many(5), i + 1);
@@ -281,7 +267,7 @@ public final class ActsTest {
         check.refused("a fourth", x, x.mark(), 3);
         for (int i = 2; i >= 0; i--) {
             check.fine("back", x, x.back(), i);
-            check.due("taken back to " + i, told(x).equals(states[i]) ? 1 : 0, 1);
+            check.due("taken back to " + i, Check.told(x).equals(states[i]) ? 1 : 0, 1);
             check.fine("nothing to undo", x, x.many(5), 0);
             check.refused("undo", x, x.undo(), 5);
             check.fine("marks", x, x.many(6), i);
@@ -299,7 +285,7 @@ public final class ActsTest {
     /** Section 3: with another STATUS than 0 nothing changes. */
     private static void refusedChangesNothing() {
         AlikeStore x = Check.loaded(FIVE + "filter ones > 0;");
-        String before = told(x);
+        String before = Check.told(x);
         x.add(16);
         x.add(15);
         x.strike(5);
@@ -310,7 +296,7 @@ public final class ActsTest {
         x.merge(1);
         x.back();
         x.load(1);
-        check.due("nothing changed", told(x).equals(before) ? 1 : 0, 1);
+        check.due("nothing changed", Check.told(x).equals(before) ? 1 : 0, 1);
         check.fine("no act", x, x.many(5), 1);
     }
 

